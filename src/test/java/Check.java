@@ -36,9 +36,17 @@ final class Check {
         try {
             call.run();
         } catch (RuntimeException thrown) {
-            got = thrown.getClass().getName();
+            got = nameOf(thrown);
         }
         due(what + " throws", got, kind.getName());
+    }
+
+    /** The name of an exception, and, if NameLand did not throw it itself, of the class that did. */
+    static String nameOf(Throwable thrown) {
+        StackTraceElement[] calls = thrown.getStackTrace();
+        String thrower = calls.length == 0 ? "NameLand" : calls[0].getClassName();
+        boolean isOwn = thrower.startsWith("NameLand") || thrower.startsWith("NaiveLand");
+        return isOwn ? thrown.getClass().getName() : thrown.getClass().getName() + " of " + thrower;
     }
 
     /** The call throws exactly this class, and changes nothing that can be seen. */

@@ -132,7 +132,10 @@ public final class NamesTest {
         land.law(1, 40, 25, 0, 0);
         land.law(1, 41, 3, 0, 0);
         Check.due("P8 without letters", land.form(0, 1, 41, 1), 0);
-        Check.due("P8 a law of the last day", land.law(1, 9999, 26, 26, 26), 7);
+        Check.due("P8 a law of the last day", land.law(1, 9999, 26, 26, 25), 7);
+        land.name(0, 1, Check.word("z"), 9998);
+        Check.due("P8 ahead of the last day", land.form(0, 1, 9998, 1), Check.word("z"));
+        Check.due("P8 on the last day", land.form(0, 1, 9999, 1), Check.word("zy"));
     }
 
     private static void lawLimit() {

@@ -193,12 +193,19 @@ public final class ReadingsTest {
             Check.due("P29 rank " + rank, land.find(word, 50, 50, rank), want[rank]);
         }
         Check.due("P29 behind the last", land.find(word, 50, 50, 5), -1);
+        land.feature(0, 99, 99);
+        land.name(5, 2, word, 0);
+        Check.due("P29 both FORMs now, as near, the lower one", land.find(word, 50, 50, 0), 1);
+        Check.due("P29 both FORMs now, as near, the other one", land.find(word, 50, 50, 1), 5);
+        land.name(5, 2, 1, 0);
+        land.move(5, 0, 0, 0);
+        Check.due("P29 not a FORM now, as near, the other one", land.find(word, 50, 50, 5), 5);
         land.move(4, 50, 50, 0);
         Check.due("P29 the place now", land.find(word, 50, 50, 2), 4);
         Check.due("P29 the far end", land.find(word, 0, 0, 0), 1);
         land.name(0, 3, word, 0);
         Check.due("P29 both FORMs now, the nearer", land.find(word, 0, 0, 0), 0);
-        Check.due("P29 each once", land.find(word, 0, 0, 5), -1);
+        Check.due("P29 each once", land.find(word, 0, 0, 6), -1);
         land.law(1, 0, 26, 26, 26);
         land.name(0, 2, word, 0);
         land.law(2, 1, 26, 26, 26);

@@ -109,6 +109,12 @@ public final class ShownTest {
         Check.due("P20 now", land.display(0, 2), 2);
         land.census(0, 3, 100);
         Check.due("P20 the census does not matter", land.display(0, 0), 1);
+        land.name(0, 1, 6, 4);
+        Check.due("P20 another one now", land.display(0, 0), 6);
+        land.name(0, 0, 5, 0);
+        land.feature(0, 0, 0);
+        land.name(1, 0, 5, 0);
+        Check.due("P20 the lowest of all", land.display(1, 3), 5);
     }
 
     private static void displayDisputed() {
@@ -127,5 +133,10 @@ public final class ShownTest {
         Check.due("P20 disputed, another one sees the lower one", land.display(0, 2), 11);
         Check.due("P20 disputed, another one of a lower tongue", land.display(0, 0), 11);
         Check.due("P20 disputed, shown is not changed", land.shown(0, 0), 1);
+        land.name(0, 1, 14, 1);
+        Check.due("P20 disputed, not yet", land.display(0, 1), 11);
+        land.pass(1);
+        Check.due("P20 disputed, now", land.display(0, 1), 14);
+        Check.due("P20 disputed, now for another one", land.display(0, 2), 14);
     }
 }

@@ -134,6 +134,16 @@ public final class SignsTest {
         land.pass(2);
         Check.due("P34 of the first day of two", land.sign(0), 2);
         Check.due("P34 disputed, nothing", land.sign(1), 0);
+        land.name(1, 1, 5, 0);
+        land.name(1, 2, 6, 0);
+        land.name(1, 0, 7, 0);
+        land.order(1);
+        land.pass(1);
+        Check.due("P34 disputed, the lower one", land.sign(1), 5);
+        land.dispute(1, 0, 0);
+        land.order(1);
+        land.pass(1);
+        Check.due("P34 the tongue 0", land.sign(1), 7);
         Check.due("P34 without a name", land.sign(2), 0);
         land.end(0, -1, 0);
         land.order(0);
