@@ -57,6 +57,10 @@ public final class FaceTest {
         "int pass(int)" + AS,
     };
 
+    private static final String[][] AHEAD = {{"features", "feature"}, {"names and laws", "name"},
+        {"councils", "petition"}, {"shown", "census"}, {"tables", "table"}, {"readings and the search", "reading"},
+        {"copies, signs, days", "pull"}};
+
     private static final String[] FORBIDDEN = {"->", "::", "finally", "synchronized", "assert ", "catch", "double",
         "float", "getClass", "System.out", "Math.random", "Exact(", "volatile", "protected", "package ", "new Thread"};
 
@@ -65,6 +69,7 @@ public final class FaceTest {
         fieldsAndConstructor();
         classesInside();
         source();
+        ahead();
         Check.end("FaceTest");
     }
 
@@ -155,6 +160,17 @@ public final class FaceTest {
                 Check.due(at + "a sign", line.charAt(k) < 127, true);
             }
             Check.due(at + "joins texts by +", line.contains("\" +") || line.contains("+ \""), false);
+        }
+    }
+
+    /** What the interface says ahead of the first call of each group. */
+    private static void ahead() throws IOException {
+        String source = Files.readString(Paths.get("src/main/java/NameLand.java"));
+        for (String[] group : AHEAD) {
+            int says = source.indexOf("    // ---- " + group[0] + "\n");
+            int next = source.indexOf("\n    public ", Math.max(says, 0));
+            String call = says < 0 ? "nothing" : source.substring(next + 12, source.indexOf('(', next));
+            Check.due("the call behind " + group[0], call.substring(call.indexOf(' ') + 1), group[1]);
         }
     }
 }

@@ -50,14 +50,14 @@ public final class FeaturesTest {
         int[][] wrong = {{-1, 0, 0}, {6, 0, 0}, {0, -1, 0}, {0, 100, 0}, {0, 0, -1}, {0, 0, 100},
             {Integer.MIN_VALUE, 0, 0}, {0, Integer.MAX_VALUE, 0}};
         for (int[] w : wrong) {
-            Check.fails("P2 out of range " + w[0] + " " + w[1] + " " + w[2], land, Check.ARGUMENT,
+            Check.fails("P2 out of range " + w[0] + " " + w[1] + " " + w[2], Check.ARGUMENT,
                 () -> land.feature(w[0], w[1], w[2]));
         }
         for (int i = 0; i < 24; i++) {
             Check.due("P2 number", land.feature(i % 6, i, 99 - i), i);
         }
-        Check.fails("P2 a 25th", land, Check.STATE, () -> land.feature(0, 0, 0));
-        Check.fails("P2 argument ahead of state", land, Check.ARGUMENT, () -> land.feature(6, 0, 0));
+        Check.fails("P2 a 25th", Check.STATE, () -> land.feature(0, 0, 0));
+        Check.fails("P2 argument ahead of state", Check.ARGUMENT, () -> land.feature(6, 0, 0));
         Check.due("P2 the last is there", land.of(23, 1, 0, 0), 23);
     }
 
@@ -88,19 +88,19 @@ public final class FeaturesTest {
         NameLand land = new NameLand();
         land.feature(0, 1, 2);
         land.feature(0, 1, 2);
-        Check.fails("P3 no feature 2", land, Check.INDEX, () -> land.move(2, -1, 0, 0));
-        Check.fails("P3 no feature -1", land, Check.INDEX, () -> land.move(-1, 0, 0, 0));
+        Check.fails("P3 no feature 2", Check.INDEX, () -> land.move(2, -1, 0, 0));
+        Check.fails("P3 no feature -1", Check.INDEX, () -> land.move(-1, 0, 0, 0));
         int[][] wrong = {{-1, 0, 0}, {100, 0, 0}, {0, -1, 0}, {0, 100, 0}, {0, 0, -1}, {0, 0, 10000}};
         for (int[] w : wrong) {
-            Check.fails("P3 out of range " + w[0] + " " + w[1] + " " + w[2], land, Check.ARGUMENT,
+            Check.fails("P3 out of range " + w[0] + " " + w[1] + " " + w[2], Check.ARGUMENT,
                 () -> land.move(0, w[0], w[1], w[2]));
         }
         // The place that was told with the feature is the first of the 40.
         for (int i = 1; i < 40; i++) {
             land.move(0, i, i, i);
         }
-        Check.fails("P3 a 41st place", land, Check.STATE, () -> land.move(0, 0, 0, 50));
-        Check.fails("P3 argument ahead of state", land, Check.ARGUMENT, () -> land.move(0, 0, 0, 10000));
+        Check.fails("P3 a 41st place", Check.STATE, () -> land.move(0, 0, 0, 50));
+        Check.fails("P3 argument ahead of state", Check.ARGUMENT, () -> land.move(0, 0, 0, 10000));
         Check.due("P3 the 40th counts", land.of(0, 1, 9999, 0), 39);
         land.move(1, 9, 9, 50);
         Check.due("P3 40 of each feature", land.of(1, 1, 50, 0), 9);
@@ -131,19 +131,19 @@ public final class FeaturesTest {
         land.feature(0, 1, 2);
         land.feature(0, 1, 2);
         land.feature(0, 1, 2);
-        Check.fails("P4 no feature", land, Check.INDEX, () -> land.part(3, 0, 0));
-        Check.fails("P4 no whole 3", land, Check.INDEX, () -> land.part(1, 3, -1));
-        Check.fails("P4 no whole -2", land, Check.INDEX, () -> land.part(1, -2, 0));
-        Check.fails("P4 the same", land, Check.ARGUMENT, () -> land.part(1, 1, 0));
-        Check.fails("P4 a higher whole", land, Check.ARGUMENT, () -> land.part(1, 2, 0));
-        Check.fails("P4 day -1", land, Check.ARGUMENT, () -> land.part(1, 0, -1));
-        Check.fails("P4 day 10000", land, Check.ARGUMENT, () -> land.part(1, 0, 10000));
+        Check.fails("P4 no feature", Check.INDEX, () -> land.part(3, 0, 0));
+        Check.fails("P4 no whole 3", Check.INDEX, () -> land.part(1, 3, -1));
+        Check.fails("P4 no whole -2", Check.INDEX, () -> land.part(1, -2, 0));
+        Check.fails("P4 the same", Check.ARGUMENT, () -> land.part(1, 1, 0));
+        Check.fails("P4 a higher whole", Check.ARGUMENT, () -> land.part(1, 2, 0));
+        Check.fails("P4 day -1", Check.ARGUMENT, () -> land.part(1, 0, -1));
+        Check.fails("P4 day 10000", Check.ARGUMENT, () -> land.part(1, 0, 10000));
         for (int i = 0; i < 40; i++) {
             land.part(2, i % 3 - 1, i);
         }
-        Check.fails("P4 a 41st time", land, Check.STATE, () -> land.part(2, 1, 50));
-        Check.fails("P4 index ahead of state", land, Check.INDEX, () -> land.part(2, 3, 50));
-        Check.fails("P4 argument ahead of state", land, Check.ARGUMENT, () -> land.part(2, 2, 50));
+        Check.fails("P4 a 41st time", Check.STATE, () -> land.part(2, 1, 50));
+        Check.fails("P4 index ahead of state", Check.INDEX, () -> land.part(2, 3, 50));
+        Check.fails("P4 argument ahead of state", Check.ARGUMENT, () -> land.part(2, 2, 50));
         Check.due("P4 the 40th counts", land.of(2, 3, 9999, 0), -1);
         Check.due("P4 the 39th counts", land.of(2, 3, 38, 0), 1);
         land.part(1, 0, 0);
@@ -155,12 +155,12 @@ public final class FeaturesTest {
         land.feature(0, 1, 2);
         land.feature(0, 3, 4);
         land.feature(0, 5, 6);
-        Check.fails("P5 no feature", land, Check.INDEX, () -> land.end(3, 0, -1));
-        Check.fails("P5 no in 3", land, Check.INDEX, () -> land.end(0, 3, -1));
-        Check.fails("P5 no in -2", land, Check.INDEX, () -> land.end(0, -2, 0));
-        Check.fails("P5 the same", land, Check.ARGUMENT, () -> land.end(0, 0, 0));
-        Check.fails("P5 day -1", land, Check.ARGUMENT, () -> land.end(0, 1, -1));
-        Check.fails("P5 day 10000", land, Check.ARGUMENT, () -> land.end(0, 1, 10000));
+        Check.fails("P5 no feature", Check.INDEX, () -> land.end(3, 0, -1));
+        Check.fails("P5 no in 3", Check.INDEX, () -> land.end(0, 3, -1));
+        Check.fails("P5 no in -2", Check.INDEX, () -> land.end(0, -2, 0));
+        Check.fails("P5 the same", Check.ARGUMENT, () -> land.end(0, 0, 0));
+        Check.fails("P5 day -1", Check.ARGUMENT, () -> land.end(0, 1, -1));
+        Check.fails("P5 day 10000", Check.ARGUMENT, () -> land.end(0, 1, 10000));
         land.pass(3);
         land.end(0, 1, 10);
         Check.due("P5 there ahead", land.of(0, 0, 9, 3), 1);
@@ -170,12 +170,12 @@ public final class FeaturesTest {
         Check.due("P5 in what, not come yet", land.of(0, 4, 9, 3), -1);
         Check.due("P5 in what, as known ahead", land.of(0, 4, 10, 2), -1);
         Check.due("P5 it keeps its place", land.of(0, 1, 10, 3), 1);
-        Check.fails("P5 once", land, Check.STATE, () -> land.end(0, 2, 20));
-        Check.fails("P5 argument ahead of state", land, Check.ARGUMENT, () -> land.end(0, 0, 20));
+        Check.fails("P5 once", Check.STATE, () -> land.end(0, 2, 20));
+        Check.fails("P5 argument ahead of state", Check.ARGUMENT, () -> land.end(0, 0, 20));
         land.end(1, -1, 0);
         Check.due("P5 ended in none", land.of(1, 4, 0, 3), -1);
         Check.due("P5 never there", land.of(1, 0, 0, 3), 0);
-        Check.fails("P5 once, in none", land, Check.STATE, () -> land.end(1, -1, 0));
+        Check.fails("P5 once, in none", Check.STATE, () -> land.end(1, -1, 0));
         land.end(2, 0, 9999);
         Check.due("P5 in a lower one", land.of(2, 4, 9999, 9999), 0);
         Check.due("P5 there until the last day", land.of(2, 0, 9998, 9999), 1);
@@ -184,11 +184,11 @@ public final class FeaturesTest {
     private static void of() {
         NameLand land = new NameLand();
         land.feature(0, 1, 2);
-        Check.fails("P6 no feature", land, Check.INDEX, () -> land.of(1, 9, 0, 0));
-        Check.fails("P6 no feature -1", land, Check.INDEX, () -> land.of(-1, 0, 0, 0));
+        Check.fails("P6 no feature", Check.INDEX, () -> land.of(1, 9, 0, 0));
+        Check.fails("P6 no feature -1", Check.INDEX, () -> land.of(-1, 0, 0, 0));
         int[][] wrong = {{-1, 0, 0}, {5, 0, 0}, {0, -1, 0}, {0, 10000, 0}, {0, 0, -1}, {0, 0, 10000}};
         for (int[] w : wrong) {
-            Check.fails("P6 out of range " + w[0] + " " + w[1] + " " + w[2], land, Check.ARGUMENT,
+            Check.fails("P6 out of range " + w[0] + " " + w[1] + " " + w[2], Check.ARGUMENT,
                 () -> land.of(0, w[0], w[1], w[2]));
         }
         Check.due("P6 there", land.of(0, 0, 0, 0), 1);

@@ -44,16 +44,16 @@ public final class NamesTest {
 
     private static void nameWrong() {
         NameLand land = withFeatures(0, 1);
-        Check.fails("P7 no feature", land, Check.INDEX, () -> land.name(1, 0, 0, -1));
-        Check.fails("P7 no tongue 4", land, Check.INDEX, () -> land.name(0, 4, 0, -1));
-        Check.fails("P7 no tongue -1", land, Check.INDEX, () -> land.name(0, -1, 1, 0));
+        Check.fails("P7 no feature", Check.INDEX, () -> land.name(1, 0, 0, -1));
+        Check.fails("P7 no tongue 4", Check.INDEX, () -> land.name(0, 4, 0, -1));
+        Check.fails("P7 no tongue -1", Check.INDEX, () -> land.name(0, -1, 1, 0));
         long[] none = {0, -1, 27, 27 * 27 + 1, Check.word("ab") * 27, 282429536481L, Check.word("aaaaaaaaa"),
             Long.MAX_VALUE, Long.MIN_VALUE, -28};
         for (long word : none) {
-            Check.fails("P7 no word " + word, land, Check.ARGUMENT, () -> land.name(0, 0, word, 0));
+            Check.fails("P7 no word " + word, Check.ARGUMENT, () -> land.name(0, 0, word, 0));
         }
-        Check.fails("P7 day -1", land, Check.ARGUMENT, () -> land.name(0, 0, 1, -1));
-        Check.fails("P7 day 10000", land, Check.ARGUMENT, () -> land.name(0, 0, 1, 10000));
+        Check.fails("P7 day -1", Check.ARGUMENT, () -> land.name(0, 0, 1, -1));
+        Check.fails("P7 day 10000", Check.ARGUMENT, () -> land.name(0, 0, 1, 10000));
         Check.due("P7 8 letters, none told ahead", land.name(0, 0, Check.word("zzzzzzzz"), 9999), 1);
         Check.due("P7 lowest word", land.name(0, 3, 1, 0), 2);
     }
@@ -63,9 +63,9 @@ public final class NamesTest {
         for (int i = 0; i < 100; i++) {
             Check.due("P7 count", land.name(i % 2, i % 4, 1 + i % 26, i), i + 1);
         }
-        Check.fails("P7 a 101st", land, Check.STATE, () -> land.name(2, 0, 1, 0));
-        Check.fails("P7 index ahead of state", land, Check.INDEX, () -> land.name(3, 0, 1, 0));
-        Check.fails("P7 argument ahead of state", land, Check.ARGUMENT, () -> land.name(0, 0, 27, 0));
+        Check.fails("P7 a 101st", Check.STATE, () -> land.name(2, 0, 1, 0));
+        Check.fails("P7 index ahead of state", Check.INDEX, () -> land.name(3, 0, 1, 0));
+        Check.fails("P7 argument ahead of state", Check.ARGUMENT, () -> land.name(0, 0, 27, 0));
         Check.due("P7 the 100th", land.form(1, 3, 99, 0), 1 + 99 % 26);
     }
 
@@ -82,8 +82,8 @@ public final class NamesTest {
         land.name(2, 0, word, 10);
         Check.due("P7 a STREET that is a part of nothing", land.name(3, 1, word, 10), 2);
         land.part(3, 0, 10);
-        Check.fails("P7 refused", land, Check.STATE, () -> land.name(3, 0, word, 10));
-        Check.fails("P7 refused later", land, Check.STATE, () -> land.name(3, 0, word, 11));
+        Check.fails("P7 refused", Check.STATE, () -> land.name(3, 0, word, 10));
+        Check.fails("P7 refused later", Check.STATE, () -> land.name(3, 0, word, 11));
         Check.due("P7 its own word again", land.name(2, 0, word, 20), 3);
         Check.due("P7 another tongue", land.name(3, 2, word, 10), 4);
         Check.due("P7 another word", land.name(3, 0, Check.word("elm"), 10), 5);
@@ -91,7 +91,7 @@ public final class NamesTest {
         Check.due("P7 ahead of being a part, and of the name", land.name(3, 0, word, 9), 7);
         land.part(3, 1, 30);
         Check.due("P7 a part of another", land.name(3, 0, word, 30), 8);
-        Check.fails("P7 argument ahead of being refused", land, Check.ARGUMENT, () -> land.name(3, 0, word, 10000));
+        Check.fails("P7 argument ahead of being refused", Check.ARGUMENT, () -> land.name(3, 0, word, 10000));
     }
 
     private static void refusedThen() {
@@ -105,14 +105,14 @@ public final class NamesTest {
         land.part(2, 0, 0);
         land.name(2, 0, word, 0);
         Check.due("P7 the other STREET is not there yet", land.name(1, 0, word, 9), 2);
-        Check.fails("P7 the other STREET is there", land, Check.STATE, () -> land.name(1, 0, word, 10));
+        Check.fails("P7 the other STREET is there", Check.STATE, () -> land.name(1, 0, word, 10));
         land.law(0, 20, 1, 3, 0);
-        Check.fails("P7 the FORM of the other counts", land, Check.STATE, () -> land.name(1, 0, Check.word("cb"), 20));
+        Check.fails("P7 the FORM of the other counts", Check.STATE, () -> land.name(1, 0, Check.word("cb"), 20));
         Check.due("P7 the FORM of the other is not the word", land.name(1, 0, word, 20), 3);
         land.pass(5);
         land.end(2, -1, 15);
         Check.due("P7 the other STREET has ended", land.name(1, 0, Check.word("cb"), 20), 4);
-        Check.fails("P7 the other STREET has not ended", land, Check.STATE, () -> land.name(1, 0, word, 14));
+        Check.fails("P7 the other STREET has not ended", Check.STATE, () -> land.name(1, 0, word, 14));
         Check.due("P7 as known ahead nothing changes", land.form(1, 0, 20, 14), word);
     }
 
@@ -141,20 +141,20 @@ public final class NamesTest {
     private static void lawLimit() {
         NameLand land = withFeatures(0, 1);
         land.name(0, 0, Check.word("abcz"), 0);
-        Check.fails("P8 no tongue", land, Check.INDEX, () -> land.law(4, -1, 0, 0, 0));
-        Check.fails("P8 no tongue -1", land, Check.INDEX, () -> land.law(-1, 0, 1, 1, 1));
+        Check.fails("P8 no tongue", Check.INDEX, () -> land.law(4, -1, 0, 0, 0));
+        Check.fails("P8 no tongue -1", Check.INDEX, () -> land.law(-1, 0, 1, 1, 1));
         int[][] wrong = {{-1, 1, 1, 1}, {10000, 1, 1, 1}, {0, 0, 1, 1}, {0, 27, 1, 1}, {0, 1, -1, 0}, {0, 1, 27, 1},
             {0, 1, 1, -1}, {0, 1, 1, 27}, {0, 1, 0, 1}, {0, 1, 0, -1}};
         for (int[] w : wrong) {
-            Check.fails("P8 out of range " + w[0] + " " + w[1] + " " + w[2] + " " + w[3], land, Check.ARGUMENT,
+            Check.fails("P8 out of range " + w[0] + " " + w[1] + " " + w[2] + " " + w[3], Check.ARGUMENT,
                 () -> land.law(0, w[0], w[1], w[2], w[3]));
         }
         for (int i = 0; i < 12; i++) {
             Check.due("P8 count", land.law(i % 4, i + 1, i + 1, i + 2, 0), i + 1);
         }
-        Check.fails("P8 a 13th", land, Check.STATE, () -> land.law(3, 50, 26, 1, 0));
-        Check.fails("P8 argument ahead of state", land, Check.ARGUMENT, () -> land.law(3, 50, 27, 1, 0));
-        Check.fails("P8 index ahead of state", land, Check.INDEX, () -> land.law(4, 50, 26, 1, 0));
+        Check.fails("P8 a 13th", Check.STATE, () -> land.law(3, 50, 26, 1, 0));
+        Check.fails("P8 argument ahead of state", Check.ARGUMENT, () -> land.law(3, 50, 27, 1, 0));
+        Check.fails("P8 index ahead of state", Check.INDEX, () -> land.law(4, 50, 26, 1, 0));
     }
 
     private static void lawOrder() {
@@ -205,27 +205,27 @@ public final class NamesTest {
         land.name(0, 0, Check.word("a"), 0);
         land.name(1, 0, Check.word("a"), 0);
         land.law(0, 1, 1, 2, 0);
-        Check.fails("P9 no feature", land, Check.INDEX, () -> land.except(2, 0, -1));
-        Check.fails("P9 no tongue", land, Check.INDEX, () -> land.except(0, 4, -1));
-        Check.fails("P9 no tongue -1", land, Check.INDEX, () -> land.except(0, -1, 0));
-        Check.fails("P9 day -1", land, Check.ARGUMENT, () -> land.except(0, 0, -1));
-        Check.fails("P9 day 10000", land, Check.ARGUMENT, () -> land.except(0, 0, 10000));
+        Check.fails("P9 no feature", Check.INDEX, () -> land.except(2, 0, -1));
+        Check.fails("P9 no tongue", Check.INDEX, () -> land.except(0, 4, -1));
+        Check.fails("P9 no tongue -1", Check.INDEX, () -> land.except(0, -1, 0));
+        Check.fails("P9 day -1", Check.ARGUMENT, () -> land.except(0, 0, -1));
+        Check.fails("P9 day 10000", Check.ARGUMENT, () -> land.except(0, 0, 10000));
         for (int i = 0; i < 40; i++) {
             land.except(0, i % 4, 100 + i);
         }
-        Check.fails("P9 a 41st of all features", land, Check.STATE, () -> land.except(1, 0, 0));
-        Check.fails("P9 argument ahead of state", land, Check.ARGUMENT, () -> land.except(1, 0, -1));
+        Check.fails("P9 a 41st of all features", Check.STATE, () -> land.except(1, 0, 0));
+        Check.fails("P9 argument ahead of state", Check.ARGUMENT, () -> land.except(1, 0, -1));
     }
 
     private static void form() {
         NameLand land = withFeatures(0, 1);
-        Check.fails("P10 no feature", land, Check.INDEX, () -> land.form(1, 0, -1, 0));
-        Check.fails("P10 no tongue 4", land, Check.INDEX, () -> land.form(0, 4, -1, 0));
-        Check.fails("P10 no tongue -1", land, Check.INDEX, () -> land.form(0, -1, 0, 0));
-        Check.fails("P10 day -1", land, Check.ARGUMENT, () -> land.form(0, 0, -1, 0));
-        Check.fails("P10 day 10000", land, Check.ARGUMENT, () -> land.form(0, 0, 10000, 0));
-        Check.fails("P10 known -1", land, Check.ARGUMENT, () -> land.form(0, 0, 0, -1));
-        Check.fails("P10 known 10000", land, Check.ARGUMENT, () -> land.form(0, 0, 0, 10000));
+        Check.fails("P10 no feature", Check.INDEX, () -> land.form(1, 0, -1, 0));
+        Check.fails("P10 no tongue 4", Check.INDEX, () -> land.form(0, 4, -1, 0));
+        Check.fails("P10 no tongue -1", Check.INDEX, () -> land.form(0, -1, 0, 0));
+        Check.fails("P10 day -1", Check.ARGUMENT, () -> land.form(0, 0, -1, 0));
+        Check.fails("P10 day 10000", Check.ARGUMENT, () -> land.form(0, 0, 10000, 0));
+        Check.fails("P10 known -1", Check.ARGUMENT, () -> land.form(0, 0, 0, -1));
+        Check.fails("P10 known 10000", Check.ARGUMENT, () -> land.form(0, 0, 0, 10000));
         Check.due("P10 without a name", land.form(0, 0, 9999, 9999), 0);
         land.name(0, 0, Check.word("abc"), 10);
         land.law(0, 10, 1, 26, 0);

@@ -16,17 +16,17 @@ public final class ReadingsTest {
 
     private static void reading() {
         NameLand land = new NameLand();
-        Check.fails("P25 no word", land, Check.ARGUMENT, () -> land.reading(0, 0, 0));
-        Check.fails("P25 9 letters", land, Check.ARGUMENT, () -> land.reading(Check.word("aaaaaaaaa"), 0, 0));
-        Check.fails("P25 x -1", land, Check.ARGUMENT, () -> land.reading(1, -1, 0));
-        Check.fails("P25 x 100", land, Check.ARGUMENT, () -> land.reading(1, 100, 0));
-        Check.fails("P25 y -1", land, Check.ARGUMENT, () -> land.reading(1, 0, -1));
-        Check.fails("P25 y 100", land, Check.ARGUMENT, () -> land.reading(1, 0, 100));
+        Check.fails("P25 no word", Check.ARGUMENT, () -> land.reading(0, 0, 0));
+        Check.fails("P25 9 letters", Check.ARGUMENT, () -> land.reading(Check.word("aaaaaaaaa"), 0, 0));
+        Check.fails("P25 x -1", Check.ARGUMENT, () -> land.reading(1, -1, 0));
+        Check.fails("P25 x 100", Check.ARGUMENT, () -> land.reading(1, 100, 0));
+        Check.fails("P25 y -1", Check.ARGUMENT, () -> land.reading(1, 0, -1));
+        Check.fails("P25 y 100", Check.ARGUMENT, () -> land.reading(1, 0, 100));
         for (int i = 0; i < 4; i++) {
             Check.due("P25 number", land.reading(Check.word("zzzzzzzz"), 99, 99), i);
         }
-        Check.fails("P25 a 5th", land, Check.STATE, () -> land.reading(1, 0, 0));
-        Check.fails("P25 argument ahead of state", land, Check.ARGUMENT, () -> land.reading(27, 0, 0));
+        Check.fails("P25 a 5th", Check.STATE, () -> land.reading(1, 0, 0));
+        Check.fails("P25 argument ahead of state", Check.ARGUMENT, () -> land.reading(27, 0, 0));
     }
 
     private static void cost(String what, String read, String name, int want) {
@@ -72,10 +72,10 @@ public final class ReadingsTest {
         Check.due("P26 the place of a later day", land.cost(1, 0), 0);
         land.law(1, 101, 1, 26, 26);
         Check.due("P26 laws do not matter", land.cost(1, 0), 0);
-        Check.fails("P26 no reading 2", land, Check.INDEX, () -> land.cost(2, 0));
-        Check.fails("P26 no reading -1", land, Check.INDEX, () -> land.cost(-1, 0));
-        Check.fails("P26 no feature 1", land, Check.INDEX, () -> land.cost(0, 1));
-        Check.fails("P26 no feature -1", land, Check.INDEX, () -> land.cost(0, -1));
+        Check.fails("P26 no reading 2", Check.INDEX, () -> land.cost(2, 0));
+        Check.fails("P26 no reading -1", Check.INDEX, () -> land.cost(-1, 0));
+        Check.fails("P26 no feature 1", Check.INDEX, () -> land.cost(0, 1));
+        Check.fails("P26 no feature -1", Check.INDEX, () -> land.cost(0, -1));
     }
 
     private static void costThere() {
@@ -217,15 +217,15 @@ public final class ReadingsTest {
         NameLand land = new NameLand();
         land.feature(0, 0, 0);
         land.name(0, 0, 1, 0);
-        Check.fails("P29 rank -1 goes first", land, Check.INDEX, () -> land.find(0, -1, -1, -1));
-        Check.fails("P29 the lowest rank", land, Check.INDEX, () -> land.find(1, 0, 0, Integer.MIN_VALUE));
+        Check.fails("P29 rank -1 goes first", Check.INDEX, () -> land.find(0, -1, -1, -1));
+        Check.fails("P29 the lowest rank", Check.INDEX, () -> land.find(1, 0, 0, Integer.MIN_VALUE));
         long[] none = {0, -1, 27, Check.word("zzzzzzzzzzzz") + 1, Long.MAX_VALUE, Long.MIN_VALUE};
         for (long word : none) {
-            Check.fails("P29 no word " + word, land, Check.ARGUMENT, () -> land.find(word, 0, 0, 0));
+            Check.fails("P29 no word " + word, Check.ARGUMENT, () -> land.find(word, 0, 0, 0));
         }
-        Check.fails("P29 x -1", land, Check.ARGUMENT, () -> land.find(1, -1, 0, 0));
-        Check.fails("P29 x 100", land, Check.ARGUMENT, () -> land.find(1, 100, 0, 0));
-        Check.fails("P29 y -1", land, Check.ARGUMENT, () -> land.find(1, 0, -1, 0));
-        Check.fails("P29 y 100", land, Check.ARGUMENT, () -> land.find(1, 0, 100, 0));
+        Check.fails("P29 x -1", Check.ARGUMENT, () -> land.find(1, -1, 0, 0));
+        Check.fails("P29 x 100", Check.ARGUMENT, () -> land.find(1, 100, 0, 0));
+        Check.fails("P29 y -1", Check.ARGUMENT, () -> land.find(1, 0, -1, 0));
+        Check.fails("P29 y 100", Check.ARGUMENT, () -> land.find(1, 0, 100, 0));
     }
 }

@@ -25,23 +25,23 @@ public final class ShownTest {
         Check.due("P17 in place of it", land.census(0, 3, 7), 0);
         Check.due("P17 of that tongue", land.census(0, 2, 7), 0);
         Check.due("P17 of that feature", land.census(1, 3, 8), 0);
-        Check.fails("P17 no feature", land, Check.INDEX, () -> land.census(2, 0, 101));
-        Check.fails("P17 no tongue 4", land, Check.INDEX, () -> land.census(0, 4, 101));
-        Check.fails("P17 no tongue -1", land, Check.INDEX, () -> land.census(0, -1, 0));
-        Check.fails("P17 101", land, Check.ARGUMENT, () -> land.census(0, 0, 101));
-        Check.fails("P17 -1", land, Check.ARGUMENT, () -> land.census(0, 0, -1));
+        Check.fails("P17 no feature", Check.INDEX, () -> land.census(2, 0, 101));
+        Check.fails("P17 no tongue 4", Check.INDEX, () -> land.census(0, 4, 101));
+        Check.fails("P17 no tongue -1", Check.INDEX, () -> land.census(0, -1, 0));
+        Check.fails("P17 101", Check.ARGUMENT, () -> land.census(0, 0, 101));
+        Check.fails("P17 -1", Check.ARGUMENT, () -> land.census(0, 0, -1));
     }
 
     private static void dispute() {
         NameLand land = withFeatures(1);
         land.name(0, 0, 1, 0);
         land.name(0, 2, 2, 0);
-        Check.fails("P18 no feature", land, Check.INDEX, () -> land.dispute(1, 0, 1));
-        Check.fails("P18 no feature -1", land, Check.INDEX, () -> land.dispute(-1, 0, 1));
-        Check.fails("P18 no one 4", land, Check.INDEX, () -> land.dispute(0, 4, 0));
-        Check.fails("P18 no one -1", land, Check.INDEX, () -> land.dispute(0, -1, 0));
-        Check.fails("P18 no other 4", land, Check.INDEX, () -> land.dispute(0, 0, 4));
-        Check.fails("P18 no other -1", land, Check.INDEX, () -> land.dispute(0, 0, -1));
+        Check.fails("P18 no feature", Check.INDEX, () -> land.dispute(1, 0, 1));
+        Check.fails("P18 no feature -1", Check.INDEX, () -> land.dispute(-1, 0, 1));
+        Check.fails("P18 no one 4", Check.INDEX, () -> land.dispute(0, 4, 0));
+        Check.fails("P18 no one -1", Check.INDEX, () -> land.dispute(0, -1, 0));
+        Check.fails("P18 no other 4", Check.INDEX, () -> land.dispute(0, 0, 4));
+        Check.fails("P18 no other -1", Check.INDEX, () -> land.dispute(0, 0, -1));
         Check.due("P18 ahead", land.display(0, 0), 1);
         land.dispute(0, 2, 3);
         Check.due("P18 disputed", land.display(0, 0), 2);
@@ -51,10 +51,10 @@ public final class ShownTest {
 
     private static void shown() {
         NameLand land = withFeatures(2);
-        Check.fails("P19 no feature", land, Check.INDEX, () -> land.shown(2, -1));
-        Check.fails("P19 no feature -1", land, Check.INDEX, () -> land.shown(-1, 0));
-        Check.fails("P19 day -1", land, Check.ARGUMENT, () -> land.shown(0, -1));
-        Check.fails("P19 day 10000", land, Check.ARGUMENT, () -> land.shown(0, 10000));
+        Check.fails("P19 no feature", Check.INDEX, () -> land.shown(2, -1));
+        Check.fails("P19 no feature -1", Check.INDEX, () -> land.shown(-1, 0));
+        Check.fails("P19 day -1", Check.ARGUMENT, () -> land.shown(0, -1));
+        Check.fails("P19 day 10000", Check.ARGUMENT, () -> land.shown(0, 10000));
         land.census(0, 3, 90);
         Check.due("P19 no FORM", land.shown(0, 0), 0);
         land.name(0, 1, 1, 0);
@@ -93,9 +93,9 @@ public final class ShownTest {
 
     private static void display() {
         NameLand land = withFeatures(1);
-        Check.fails("P20 no feature", land, Check.INDEX, () -> land.display(1, 0));
-        Check.fails("P20 no tongue 4", land, Check.INDEX, () -> land.display(0, 4));
-        Check.fails("P20 no tongue -1", land, Check.INDEX, () -> land.display(0, -1));
+        Check.fails("P20 no feature", Check.INDEX, () -> land.display(1, 0));
+        Check.fails("P20 no tongue 4", Check.INDEX, () -> land.display(0, 4));
+        Check.fails("P20 no tongue -1", Check.INDEX, () -> land.display(0, -1));
         Check.due("P20 nothing", land.display(0, 0), 0);
         land.name(0, 3, 3, 0);
         Check.due("P20 the lowest that has one", land.display(0, 0), 3);

@@ -28,8 +28,8 @@ public final class SignsTest {
         land.pass(3);
         Check.due("P30 3 days", land.pull(0), 3);
         Check.due("P30 another subscriber", land.pull(3), 10);
-        Check.fails("P30 no subscriber 4", land, Check.INDEX, () -> land.pull(4));
-        Check.fails("P30 no subscriber -1", land, Check.INDEX, () -> land.pull(-1));
+        Check.fails("P30 no subscriber 4", Check.INDEX, () -> land.pull(4));
+        Check.fails("P30 no subscriber -1", Check.INDEX, () -> land.pull(-1));
     }
 
     private static void copy() {
@@ -54,25 +54,25 @@ public final class SignsTest {
         Check.due("P31 brought up", land.copy(1, 0, 1), 9);
         land.name(0, 2, 8, 0);
         Check.due("P31 told later on the day of the pull", land.copy(1, 0, 2), 8);
-        Check.fails("P31 no subscriber 4", land, Check.INDEX, () -> land.copy(4, 0, 0));
-        Check.fails("P31 no subscriber -1", land, Check.INDEX, () -> land.copy(-1, 0, 0));
-        Check.fails("P31 no feature 1", land, Check.INDEX, () -> land.copy(0, 1, 0));
-        Check.fails("P31 no feature -1", land, Check.INDEX, () -> land.copy(0, -1, 0));
-        Check.fails("P31 no tongue 4", land, Check.INDEX, () -> land.copy(0, 0, 4));
-        Check.fails("P31 no tongue -1", land, Check.INDEX, () -> land.copy(0, 0, -1));
+        Check.fails("P31 no subscriber 4", Check.INDEX, () -> land.copy(4, 0, 0));
+        Check.fails("P31 no subscriber -1", Check.INDEX, () -> land.copy(-1, 0, 0));
+        Check.fails("P31 no feature 1", Check.INDEX, () -> land.copy(0, 1, 0));
+        Check.fails("P31 no feature -1", Check.INDEX, () -> land.copy(0, -1, 0));
+        Check.fails("P31 no tongue 4", Check.INDEX, () -> land.copy(0, 0, 4));
+        Check.fails("P31 no tongue -1", Check.INDEX, () -> land.copy(0, 0, -1));
     }
 
     private static void order() {
         NameLand land = withFeatures(3);
-        Check.fails("P32 no feature 3", land, Check.INDEX, () -> land.order(3));
-        Check.fails("P32 no feature -1", land, Check.INDEX, () -> land.order(-1));
+        Check.fails("P32 no feature 3", Check.INDEX, () -> land.order(3));
+        Check.fails("P32 no feature -1", Check.INDEX, () -> land.order(-1));
         Check.due("P32 one", land.order(2), 1);
-        Check.fails("P32 each once", land, Check.STATE, () -> land.order(2));
+        Check.fails("P32 each once", Check.STATE, () -> land.order(2));
         Check.due("P32 two", land.order(0), 2);
         Check.due("P32 three", land.order(1), 3);
         land.pass(1);
         Check.due("P32 again behind it", land.order(2), 2);
-        Check.fails("P32 one waits still", land, Check.STATE, () -> land.order(1));
+        Check.fails("P32 one waits still", Check.STATE, () -> land.order(1));
         land.pass(1);
         Check.due("P32 none waited", land.order(1), 1);
     }
@@ -80,8 +80,8 @@ public final class SignsTest {
     private static void budget() {
         NameLand land = withFeatures(12);
         Check.due("P33 2 at first", land.budget(10), 2);
-        Check.fails("P33 -1", land, Check.ARGUMENT, () -> land.budget(-1));
-        Check.fails("P33 11", land, Check.ARGUMENT, () -> land.budget(11));
+        Check.fails("P33 -1", Check.ARGUMENT, () -> land.budget(-1));
+        Check.fails("P33 11", Check.ARGUMENT, () -> land.budget(11));
         for (int i = 0; i < 12; i++) {
             land.order(i);
         }
@@ -101,8 +101,8 @@ public final class SignsTest {
             land.name(i, 0, i + 1, 0);
             land.order(3 - i);
         }
-        Check.fails("P34 no feature 4", land, Check.INDEX, () -> land.sign(4));
-        Check.fails("P34 no feature -1", land, Check.INDEX, () -> land.sign(-1));
+        Check.fails("P34 no feature 4", Check.INDEX, () -> land.sign(4));
+        Check.fails("P34 no feature -1", Check.INDEX, () -> land.sign(-1));
         Check.due("P34 at first", land.sign(3), 0);
         land.pass(1);
         Check.due("P34 the first order", land.sign(3), 4);
@@ -153,9 +153,9 @@ public final class SignsTest {
 
     private static void pass() {
         NameLand land = withFeatures(1);
-        Check.fails("P35 0", land, Check.ARGUMENT, () -> land.pass(0));
-        Check.fails("P35 -1", land, Check.ARGUMENT, () -> land.pass(-1));
-        Check.fails("P35 401", land, Check.ARGUMENT, () -> land.pass(401));
+        Check.fails("P35 0", Check.ARGUMENT, () -> land.pass(0));
+        Check.fails("P35 -1", Check.ARGUMENT, () -> land.pass(-1));
+        Check.fails("P35 401", Check.ARGUMENT, () -> land.pass(401));
         Check.due("P35 1", land.pass(1), 1);
         Check.due("P35 400", land.pass(400), 401);
         for (int i = 0; i < 23; i++) {
@@ -164,15 +164,15 @@ public final class SignsTest {
         Check.due("P35 9998", land.pass(397), 9998);
         land.order(0);
         land.name(0, 0, 1, 0);
-        Check.fails("P35 above 9999", land, Check.STATE, () -> land.pass(2));
-        Check.fails("P35 argument ahead of state", land, Check.ARGUMENT, () -> land.pass(401));
+        Check.fails("P35 above 9999", Check.STATE, () -> land.pass(2));
+        Check.fails("P35 argument ahead of state", Check.ARGUMENT, () -> land.pass(401));
         Check.due("P35 no sign was replaced", land.sign(0), 0);
         Check.due("P35 the last day", land.pass(1), 9999);
         Check.due("P35 a sign was replaced", land.sign(0), 1);
-        Check.fails("P35 behind the last day", land, Check.STATE, () -> land.pass(1));
+        Check.fails("P35 behind the last day", Check.STATE, () -> land.pass(1));
         Check.due("P35 a name on the last day", land.name(0, 1, 1, 9999), 2);
         Check.due("P35 known on the last day", land.form(0, 1, 9999, 9999), 1);
         Check.due("P35 not known ahead", land.form(0, 1, 9999, 9998), 0);
-        Check.fails("P35 no petition can be told", land, Check.ARGUMENT, () -> land.petition(0, 0, 1, 9999));
+        Check.fails("P35 no petition can be told", Check.ARGUMENT, () -> land.petition(0, 0, 1, 9999));
     }
 }

@@ -18,12 +18,12 @@ public final class TablesTest {
         }
         Check.due("P21 what was told", land.table(3, 1, 5), 26);
         Check.due("P21 another table", land.table(0, 1, 1), 1);
-        Check.fails("P21 no table 4", land, Check.INDEX, () -> land.table(4, 0, 0));
-        Check.fails("P21 no table -1", land, Check.INDEX, () -> land.table(-1, 1, 1));
-        Check.fails("P21 letter 0", land, Check.ARGUMENT, () -> land.table(0, 0, 1));
-        Check.fails("P21 letter 27", land, Check.ARGUMENT, () -> land.table(0, 27, 1));
-        Check.fails("P21 to 0", land, Check.ARGUMENT, () -> land.table(0, 1, 0));
-        Check.fails("P21 to 27", land, Check.ARGUMENT, () -> land.table(0, 1, 27));
+        Check.fails("P21 no table 4", Check.INDEX, () -> land.table(4, 0, 0));
+        Check.fails("P21 no table -1", Check.INDEX, () -> land.table(-1, 1, 1));
+        Check.fails("P21 letter 0", Check.ARGUMENT, () -> land.table(0, 0, 1));
+        Check.fails("P21 letter 27", Check.ARGUMENT, () -> land.table(0, 27, 1));
+        Check.fails("P21 to 0", Check.ARGUMENT, () -> land.table(0, 1, 0));
+        Check.fails("P21 to 27", Check.ARGUMENT, () -> land.table(0, 1, 27));
     }
 
     private static void write() {
@@ -64,18 +64,18 @@ public final class TablesTest {
         }
         Check.due("P24 all but one", land.loss(2), 25);
         Check.due("P24 another table", land.loss(3), 0);
-        Check.fails("P24 no table 4", land, Check.INDEX, () -> land.loss(4));
-        Check.fails("P24 no table -1", land, Check.INDEX, () -> land.loss(-1));
+        Check.fails("P24 no table 4", Check.INDEX, () -> land.loss(4));
+        Check.fails("P24 no table -1", Check.INDEX, () -> land.loss(-1));
     }
 
     private static void wrongWords() {
         NameLand land = new NameLand();
         long[] none = {0, -1, 27, 28 * 27, LONGEST + 1, Check.word("aaaaaaaaaaaa") * 27 + 1, Long.MAX_VALUE, Long.MIN_VALUE};
         for (long word : none) {
-            Check.fails("P22 no word " + word, land, Check.ARGUMENT, () -> land.write(word, 0));
-            Check.fails("P23 no word " + word, land, Check.ARGUMENT, () -> land.back(word, 0));
-            Check.fails("P22 no table goes first", land, Check.INDEX, () -> land.write(word, 4));
-            Check.fails("P23 no table goes first", land, Check.INDEX, () -> land.back(word, -1));
+            Check.fails("P22 no word " + word, Check.ARGUMENT, () -> land.write(word, 0));
+            Check.fails("P23 no word " + word, Check.ARGUMENT, () -> land.back(word, 0));
+            Check.fails("P22 no table goes first", Check.INDEX, () -> land.write(word, 4));
+            Check.fails("P23 no table goes first", Check.INDEX, () -> land.back(word, -1));
         }
     }
 }
