@@ -251,6 +251,18 @@ public final class ShownEdgesTest {
         Check.due("an exception that was told today", land.shown(0, 4), 2);
     }
 
+    @Says(promise = 0, words = "The tongues in which a feature is shown on a day, as known on the present day")
+    private static void p19_a_feature_that_is_not_there_is_shown() {
+        NameLand land = new NameLand();
+        land.pass(10);
+        land.feature(0, 1, 1);
+        land.name(0, 2, 1, 5);
+        land.end(0, -1, 20);
+        Check.due("ahead of the name", land.shown(0, 4), 0);
+        Check.due("ahead of the feature", land.shown(0, 5), 4);
+        Check.due("behind its end", land.shown(0, 20), 4);
+    }
+
     // ---- promise 20
 
     @Says(promise = 20, words = "- `feature`: a feature")
@@ -316,6 +328,15 @@ public final class ShownEdgesTest {
             Check.due("FORMs in " + tongues + ", disputed by " + one + " and " + other + ", reader " + reader,
                 land.display(0, reader), want);
         }
+    }
+
+    @Says(promise = 20, words = "Returns what a reader sees of a feature now.")
+    private static void p20_a_feature_that_is_not_there_is_seen() {
+        NameLand land = Check.land(NAMED);
+        land.end(0, 1, 0);
+        Check.due("the FORM in the own tongue", land.display(0, 3), 4);
+        land.dispute(0, 1, 2);
+        Check.due("disputed", land.display(0, 3), 2);
     }
 
     @Says(promise = 20, words = "Returns what a reader sees of a feature now.")
