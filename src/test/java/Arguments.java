@@ -1,4 +1,5 @@
 import java.util.ArrayList;
+import java.util.Arrays;
 import java.util.List;
 
 /**
@@ -87,7 +88,7 @@ final class Arguments {
                 due = kind;
             }
         }
-        String what = java.util.Arrays.toString(a);
+        String what = Arrays.toString(a);
         if (due == null) {
             Check.takes(what, recipe, land -> call.on(land, a));
         } else {

@@ -109,7 +109,6 @@ public final class TermEdgesTest {
 
     @Says(promise = 0, words = "IllegalStateException if a call is not possible now, also if there would be more than told.")
     private static void p02_p07_p08_p09_p11_p25_a_full_land_takes_no_more() {
-        Recipe full = land -> { };
         NameLand land = full();
         Check.fails("features", Check.STATE, () -> land.feature(0, 0, 0));
         Check.fails("names", Check.STATE, () -> land.name(0, 0, 1, 0));
@@ -118,7 +117,7 @@ public final class TermEdgesTest {
         Check.fails("petitions", Check.STATE, () -> land.petition(0, 0, 1, 30));
         Check.fails("readings", Check.STATE, () -> land.reading(1, 0, 0));
         Check.fails("orders", Check.STATE, () -> land.order(0));
-        Check.due("another land takes them", Check.land(full).feature(0, 0, 0), 0);
+        Check.due("another land takes them", new NameLand().feature(0, 0, 0), 0);
     }
 
     @Says(promise = 0, words = "A feature has a place from a day on, two numbers, 0 to 99, may be a part of another one "
